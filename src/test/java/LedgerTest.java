@@ -10,6 +10,7 @@ public final class LedgerTest {
         losesAndRepairs();
         losesBoth();
         refusedCallsWriteNothing();
+        auditsAgain();
         CHECK.end();
     }
 
@@ -157,5 +158,24 @@ public final class LedgerTest {
         x.giveBack(0, 1);
         due("entries", x.told(6), 9);
         due("audit", x.audit(), 0);
+    }
+
+    private static void auditsAgain() {
+        DispenseCabinet x = cabinet();
+        for (int bin = 0; bin < 64; bin += 63) {
+            x.begin(1, bin);
+            x.amount(9, 0, 900);
+            x.shut();
+        }
+        due("audit", x.audit(), 0);
+        due("audit again", x.audit(), 0);
+        x.begin(3, 0);
+        x.amount(4, 0, 0);
+        due("audit in a step", x.audit(), 0);
+        x.shut();
+        x.begin(2, 63);
+        x.count(11);
+        x.shut();
+        due("audit at last", x.audit(), 0);
     }
 }

@@ -12,6 +12,7 @@ public final class OrdersTest {
         cancelDuringStep();
         openUntilEnd();
         leftAndGap();
+        gapSinceTheLatest();
         CHECK.end();
     }
 
@@ -168,5 +169,22 @@ public final class OrdersTest {
         x.shut();
         x.tick(30);
         due("not open for begin", x.begin(0, 0), -6);
+    }
+
+    private static void gapSinceTheLatest() {
+        DispenseCabinet x = withPharmacist();
+        fill(x, 0, 9, 0, 5000);
+        x.order(0, 5, 30, 4000);
+        for (int taking = 1; taking <= 3; taking++) {
+            x.tick(40);
+            due("gap passed", x.begin(0, 0), 0);
+            due("one", x.amount(1, 0, 0), 9 - taking);
+            x.shut();
+            x.tick(29);
+            due("gap since the latest", x.begin(0, 0), -6);
+            x.tick(1);
+            due("passed", x.begin(0, 0), 0);
+            x.shut();
+        }
     }
 }

@@ -15,6 +15,7 @@ public final class StockTest {
         stocks();
         wanted();
         alarms();
+        firstAndLastNumbers();
         told();
         CHECK.end();
     }
@@ -331,5 +332,41 @@ public final class StockTest {
         x.begin(2, 12);
         due("COUNT", x.told(3), 2);
         due("COUNT must be counted", x.told(5), 1);
+    }
+
+    private static void firstAndLastNumbers() {
+        DispenseCabinet x = new DispenseCabinet();
+        x.user(0, 1, 10);
+        x.user(15, 1, 25);
+        x.item(0, true, 5);
+        x.item(31, true, 5);
+        due("wanted 0", x.wanted(0), 0);
+        due("wanted 31", x.wanted(1), 31);
+        x.login(15, 25);
+        x.witness(0, 10);
+        fill(x, 0, 5, 0, 50);
+        fill(x, 63, 5, 31, 60);
+        due("nothing is wanted", x.alarms(), 0);
+        due("bins 0 and 63", x.reconcile(), 2);
+        due("bin 0", x.mismatch(0), 0);
+        due("bin 63", x.mismatch(1), 63);
+        x.tick(50);
+        due("a lot of bin 0 is expired, item 0 is wanted", x.alarms(), 20);
+        countBin(x, 0, 0, -5);
+        fill(x, 0, 5, 0, 900);
+        x.tick(10);
+        due("a lot of bin 63 is expired, item 31 is wanted", x.alarms(), 20);
+        fill(x, 63, 5, 31, 900);
+        countBin(x, 63, 5, -5);
+        due("none", x.alarms(), 0);
+        for (int i = 0; i < 3; i++) {
+            x.login(0, 0);
+        }
+        due("user 0 is locked", x.alarms(), 2);
+        x.tick(300);
+        for (int i = 0; i < 3; i++) {
+            x.login(15, 0);
+        }
+        due("user 15 is locked", x.alarms(), 2);
     }
 }
