@@ -42,10 +42,6 @@ public final class AmountsBoundsTest extends Bounds {
         CHECK.end();
     }
 
-    private static int target(int kind, int item) {
-        return kind == TAKE ? item : FREE_BIN + item;
-    }
-
     /** Three lots of 3, 4 and 5 units in bin 0, that expire at 100, 200 and 300; order 0 is of 1000 units. */
     private static DispenseCabinet threeLots(int kind) {
         DispenseCabinet x = with(PHARMACIST);
@@ -268,11 +264,13 @@ public final class AmountsBoundsTest extends Bounds {
             due("1000", x.amount(1000, FREE, LATER), kind == FILL ? 2000 : 0);
             due("1", begun(PHARMACIST, kind, target(kind, FREE)).amount(1, FREE, LATER), kind == FILL ? 10 : 8);
             for (int units : new int[] {MIN, -1, 1001, MAX}) {
-                refused("amount " + units, BAD, () -> begun(PHARMACIST, step, target(step, FREE)), y -> y.amount(units, FREE, LATER));
+                refused("amount " + units, BAD, () -> begun(PHARMACIST, step, target(step, FREE)),
+                        y -> y.amount(units, FREE, LATER));
             }
         }
         for (int units : new int[] {MIN, -1, 1001, MAX}) {
-            refused("COUNT, amount " + units, BAD, () -> begun(PHARMACIST, COUNT, FREE_BIN), y -> y.amount(units, FREE, LATER));
+            refused("COUNT, amount " + units, BAD, () -> begun(PHARMACIST, COUNT, FREE_BIN),
+                    y -> y.amount(units, FREE, LATER));
         }
     }
 
@@ -376,7 +374,8 @@ public final class AmountsBoundsTest extends Bounds {
     /** Promise 12: "an expiry that is not behind now" */
     private static void fillExpiry() {
         for (int expiry : new int[] {MIN, -1, 0, 19, 20}) {
-            refused("expiry " + expiry + " at 20", BAD, () -> begun(PHARMACIST, FILL, FREE_BIN), x -> x.amount(1, FREE, expiry));
+            refused("expiry " + expiry + " at 20", BAD, () -> begun(PHARMACIST, FILL, FREE_BIN),
+                    x -> x.amount(1, FREE, expiry));
         }
         DispenseCabinet x = begun(PHARMACIST, FILL, FREE_BIN);
         due("expiry 0 at 0", x.amount(1, FREE, 0), BAD);

@@ -17,6 +17,7 @@ public final class LedgerBoundsTest extends Bounds {
         auditOfNothing();
         auditOfAllKinds();
         auditOfAllBins();
+        auditOfFullLedger();
         auditOfOneCopy();
         auditOfLostCopies();
         CHECK.end();
@@ -224,6 +225,16 @@ public final class LedgerBoundsTest extends Bounds {
         countTo(x, 0, 0);
         countTo(x, 63, 10000);
         due("first and last", x.audit(), 0);
+    }
+
+    /** Promise 27, of 300 entries. */
+    private static void auditOfFullLedger() {
+        for (int copy = 0; copy < 2; copy++) {
+            DispenseCabinet x = writtenInStep(300, TAKE, FREE_ORDER);
+            due("both copies", x.audit(), 0);
+            x.lose(copy);
+            due("one copy", x.audit(), 0);
+        }
     }
 
     /** Promise 27, read of the copy that is whole. */

@@ -140,9 +140,10 @@ public final class PeopleBoundsTest extends Bounds {
     private static void loginWithOpenStep() {
         for (int kind = TAKE; kind <= WASTE; kind++) {
             int step = kind;
-            int target = kind == TAKE ? FREE_ORDER : FREE_BIN;
+            int target = target(kind, FREE);
             refused("another", STEP, () -> begun(PHARMACIST, step, target), x -> x.login(NURSE, code(NURSE)));
-            refused("the same", STEP, () -> begun(PHARMACIST, step, target), x -> x.login(PHARMACIST, code(PHARMACIST)));
+            refused("the same", STEP, () -> begun(PHARMACIST, step, target),
+                    x -> x.login(PHARMACIST, code(PHARMACIST)));
         }
         DispenseCabinet x = begun(PHARMACIST, FILL, FREE_BIN);
         x.shut();
@@ -169,7 +170,7 @@ public final class PeopleBoundsTest extends Bounds {
         due("third, which locks", x.login(AIDE, code(NURSE)), WRONG);
         due("fourth", x.login(AIDE, code(NURSE)), LOCKED);
         due("who was in stays", x.told(1), NURSE);
-        refused("a wrong code changes nothing that can be seen", WRONG, () -> with(NURSE), y -> y.login(AIDE, 0));
+        refused("wrong", WRONG, () -> with(NURSE), y -> y.login(AIDE, 0));
     }
 
     /** Promise 4, where several would come: BAD, STEP, LOCKED, WRONG. */
@@ -218,7 +219,7 @@ public final class PeopleBoundsTest extends Bounds {
     private static void logoutWithOpenStep() {
         for (int kind = TAKE; kind <= WASTE; kind++) {
             int step = kind;
-            refused("kind " + kind, STEP, () -> begun(PHARMACIST, step, step == TAKE ? FREE_ORDER : FREE_BIN), x -> x.logout());
+            refused("kind " + kind, STEP, () -> begun(PHARMACIST, step, target(step, FREE)), x -> x.logout());
         }
         DispenseCabinet x = begun(PHARMACIST, TAKE, FREE_ORDER);
         x.amount(1, 0, 0);
@@ -283,7 +284,7 @@ public final class PeopleBoundsTest extends Bounds {
         due("alarm", x.alarms(), 2);
         due("fourth", x.witness(AIDE, code(NURSE)), LOCKED);
         due("who was witness stays", x.told(2), SECOND);
-        refused("a wrong code changes nothing that can be seen", WRONG, () -> witnessed(NURSE), y -> y.witness(AIDE, 0));
+        refused("wrong", WRONG, () -> witnessed(NURSE), y -> y.witness(AIDE, 0));
         refused("wrong of the witness", WRONG, () -> witnessed(NURSE), y -> y.witness(SECOND, 0));
     }
 

@@ -31,10 +31,6 @@ public final class StepsBoundsTest extends Bounds {
         CHECK.end();
     }
 
-    private static int target(int kind, int item) {
-        return kind == TAKE ? item : FREE_BIN + item;
-    }
-
     /** Promise 10: "A step is begun: its bin, whose lid opens." */
     private static void beginAnswersTheBin() {
         for (int bin : new int[] {0, 63}) {
@@ -196,8 +192,10 @@ public final class StepsBoundsTest extends Bounds {
             int step = kind;
             for (int other = TAKE; other <= WASTE; other++) {
                 int next = other;
-                refused("the same bin", STEP, () -> begun(PHARMACIST, step, target(step, FREE)), x -> x.begin(next, target(next, FREE)));
-                refused("another bin", STEP, () -> begun(PHARMACIST, step, target(step, FREE)), x -> x.begin(next, target(next, CONTROLLED)));
+                refused("the same bin", STEP, () -> begun(PHARMACIST, step, target(step, FREE)),
+                        x -> x.begin(next, target(next, FREE)));
+                refused("another bin", STEP, () -> begun(PHARMACIST, step, target(step, FREE)),
+                        x -> x.begin(next, target(next, CONTROLLED)));
             }
         }
         DispenseCabinet x = begun(PHARMACIST, TAKE, FREE_ORDER);
@@ -277,18 +275,14 @@ public final class StepsBoundsTest extends Bounds {
         return x;
     }
 
-    private static DispenseCabinet writtenAndWitnessed(int entries, int user) {
-        DispenseCabinet x = written(entries, user);
-        witness(x, SECOND);
-        return x;
-    }
-
     /** Promise 10: "FULL: the ledger has 290 entries" */
     private static void beginWithFullLedger() {
         for (int kind = TAKE; kind <= WASTE; kind++) {
             int step = kind;
-            due("289, kind " + kind, writtenAndWitnessed(289, PHARMACIST).begin(kind, target(kind, CONTROLLED)), CONTROLLED_BIN);
-            refused("290, kind " + kind, FULL, () -> writtenAndWitnessed(290, PHARMACIST), x -> x.begin(step, target(step, CONTROLLED)));
+            DispenseCabinet with289 = writtenAndWitnessed(289, PHARMACIST);
+            due("289, kind " + kind, with289.begin(kind, target(kind, CONTROLLED)), CONTROLLED_BIN);
+            refused("290, kind " + kind, FULL, () -> writtenAndWitnessed(290, PHARMACIST),
+                    x -> x.begin(step, target(step, CONTROLLED)));
         }
         DispenseCabinet x = writtenInStep(300, TAKE, FREE_ORDER);
         x.shut();

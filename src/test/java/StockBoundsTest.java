@@ -100,7 +100,7 @@ public final class StockBoundsTest extends Bounds {
     private static void givesBackWithOpenStep() {
         for (int kind = TAKE; kind <= WASTE; kind++) {
             int step = kind;
-            refused("kind " + kind, STEP, () -> begun(PHARMACIST, step, step == TAKE ? FREE_ORDER : FREE_BIN), x -> x.giveBack(FREE, 1));
+            refused("kind " + kind, STEP, () -> begun(PHARMACIST, step, target(step, FREE)), x -> x.giveBack(FREE, 1));
         }
         DispenseCabinet x = begun(PHARMACIST, FILL, FREE_BIN);
         x.shut();
@@ -252,7 +252,7 @@ public final class StockBoundsTest extends Bounds {
     private static void reconcileWithOpenStep() {
         for (int kind = TAKE; kind <= WASTE; kind++) {
             int step = kind;
-            refused("kind " + kind, STEP, () -> begun(PHARMACIST, step, step == TAKE ? FREE_ORDER : FREE_BIN), x -> x.reconcile());
+            refused("kind " + kind, STEP, () -> begun(PHARMACIST, step, target(step, FREE)), x -> x.reconcile());
         }
     }
 
@@ -261,12 +261,6 @@ public final class StockBoundsTest extends Bounds {
         refused("nurse", WITNESS, () -> stocked(NURSE), x -> x.reconcile());
         refused("pharmacist", WITNESS, () -> stocked(PHARMACIST), x -> x.reconcile());
         refused("no bins", WITNESS, () -> with(NURSE), x -> x.reconcile());
-    }
-
-    private static DispenseCabinet writtenAndWitnessed(int entries, int user) {
-        DispenseCabinet x = written(entries, user);
-        witness(x, SECOND);
-        return x;
     }
 
     /** Promise 15: "FULL: the ledger has 290 entries." */
@@ -434,7 +428,7 @@ public final class StockBoundsTest extends Bounds {
     /** Promise 22: "1 the lid is open for 40 seconds or more" */
     private static void alarmOfLid() {
         for (int kind = TAKE; kind <= WASTE; kind++) {
-            DispenseCabinet x = begun(PHARMACIST, kind, kind == TAKE ? FREE_ORDER : FREE_BIN);
+            DispenseCabinet x = begun(PHARMACIST, kind, target(kind, FREE));
             due("0 seconds", x.alarms(), 0);
             x.tick(39);
             due("39 seconds", x.alarms(), 0);

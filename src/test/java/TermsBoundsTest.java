@@ -282,7 +282,7 @@ public final class TermsBoundsTest extends Bounds {
     /** "if no step is open" */
     private static void staysInWithOpenStep() {
         for (int kind = TAKE; kind <= WASTE; kind++) {
-            DispenseCabinet x = begun(PHARMACIST, kind, kind == TAKE ? FREE_ORDER : FREE_BIN);
+            DispenseCabinet x = begun(PHARMACIST, kind, target(kind, FREE));
             x.tick(120);
             due("120 seconds, kind " + kind, x.told(1), PHARMACIST);
             x.tick(1000);
@@ -422,7 +422,7 @@ public final class TermsBoundsTest extends Bounds {
     /** "then for ever of that": emptied by TAKE, COUNT and WASTE. */
     private static void binIsForEverOfItsItem() {
         for (int kind : new int[] {TAKE, COUNT, WASTE}) {
-            DispenseCabinet x = begun(PHARMACIST, kind, kind == TAKE ? FREE_ORDER : FREE_BIN);
+            DispenseCabinet x = begun(PHARMACIST, kind, target(kind, FREE));
             x.count(kind == COUNT ? 0 : 5);
             x.amount(5, 0, 0);
             x.shut();
@@ -436,7 +436,7 @@ public final class TermsBoundsTest extends Bounds {
         }
     }
 
-    /** "A LOT has an expiry (a time; it is EXPIRED from then on)", and "what can be GIVEN those that are not expired" */
+    /** "(a time; it is EXPIRED from then on)", and "what can be GIVEN those that are not expired" */
     private static void lotIsExpiredFromItsExpiryOn() {
         DispenseCabinet x = with(PHARMACIST);
         fill(x, 0, 4, FREE, 50);
@@ -645,14 +645,14 @@ public final class TermsBoundsTest extends Bounds {
     /** "A STEP is open, or none; it is of a bin, whose lid is open as long" */
     private static void oneStepIsOpenAtMost() {
         for (int kind = TAKE; kind <= WASTE; kind++) {
-            int target = kind == TAKE ? FREE_ORDER : FREE_BIN;
+            int target = target(kind, FREE);
             DispenseCabinet x = begun(PHARMACIST, kind, target);
             due("kind", x.told(3), kind);
             due("bin", x.told(4), FREE_BIN);
             due("lid", x.bin(FREE_BIN, 5), 1);
             due("other lid", x.bin(CONTROLLED_BIN, 5), 0);
             for (int other = TAKE; other <= WASTE; other++) {
-                due("another", x.begin(other, other == TAKE ? CONTROLLED_ORDER : CONTROLLED_BIN), STEP);
+                due("another", x.begin(other, target(other, CONTROLLED)), STEP);
             }
             x.count(9);
             due("shut", x.shut(), 0);
@@ -668,7 +668,7 @@ public final class TermsBoundsTest extends Bounds {
         for (int kind = TAKE; kind <= WASTE; kind++) {
             for (int item = FREE; item <= CONTROLLED; item++) {
                 boolean must = kind == COUNT || kind != FILL && item == CONTROLLED;
-                DispenseCabinet x = begun(PHARMACIST, kind, kind == TAKE ? item : FREE_BIN + item);
+                DispenseCabinet x = begun(PHARMACIST, kind, target(kind, item));
                 due("must, kind " + kind + " item " + item, x.told(5), must ? 1 : 0);
                 int uncounted = x.amount(1, item, LATER);
                 due("amount uncounted", uncounted, must ? STEP : kind == FILL ? 10 : 8);
@@ -681,7 +681,7 @@ public final class TermsBoundsTest extends Bounds {
     /** "amounts are told once, but none for COUNT" */
     private static void amountIsToldOnce() {
         for (int kind = TAKE; kind <= WASTE; kind++) {
-            DispenseCabinet x = begun(PHARMACIST, kind, kind == TAKE ? CONTROLLED_ORDER : CONTROLLED_BIN);
+            DispenseCabinet x = begun(PHARMACIST, kind, target(kind, CONTROLLED));
             x.count(9);
             int book = kind == FILL ? 10 : 8;
             due("once, kind " + kind, x.amount(1, CONTROLLED, LATER), kind == COUNT ? STEP : book);
@@ -693,7 +693,7 @@ public final class TermsBoundsTest extends Bounds {
     /** "FILL wants role 1, the others role 0 or 1" */
     private static void rolesOfSteps() {
         for (int kind = TAKE; kind <= WASTE; kind++) {
-            int target = kind == TAKE ? FREE_ORDER : FREE_BIN;
+            int target = target(kind, FREE);
             due("pharmacist, kind " + kind, witnessed(PHARMACIST).begin(kind, target), FREE_BIN);
             due("nurse, kind " + kind, witnessed(NURSE).begin(kind, target), kind == FILL ? ROLE : FREE_BIN);
             due("aide, kind " + kind, witnessed(AIDE).begin(kind, target), ROLE);
@@ -705,11 +705,10 @@ public final class TermsBoundsTest extends Bounds {
         for (int kind = TAKE; kind <= WASTE; kind++) {
             for (int item = FREE; item <= CONTROLLED; item++) {
                 boolean wants = kind == WASTE || kind == TAKE && item == CONTROLLED;
-                int target = kind == TAKE ? item : FREE_BIN + item;
+                int bin = FREE_BIN + item;
                 String name = "kind " + kind + " item " + item;
-                due(name + " alone", stocked(NURSE).begin(kind == FILL ? COUNT : kind, target), wants ? WITNESS : FREE_BIN + item);
-                due(name + " alone", stocked(SECOND).begin(kind, target), wants ? WITNESS : FREE_BIN + item);
-                due(name + " witnessed", witnessed(PHARMACIST).begin(kind, target), FREE_BIN + item);
+                due(name + " alone", stocked(PHARMACIST).begin(kind, target(kind, item)), wants ? WITNESS : bin);
+                due(name + " witnessed", witnessed(PHARMACIST).begin(kind, target(kind, item)), bin);
             }
         }
     }
@@ -717,7 +716,7 @@ public final class TermsBoundsTest extends Bounds {
     /** "TAKE and WASTE may be counted once also where they need not, before their amount." */
     private static void mayBeCountedOnce() {
         for (int kind = TAKE; kind <= WASTE; kind += WASTE) {
-            int target = kind == TAKE ? FREE_ORDER : FREE_BIN;
+            int target = target(kind, FREE);
             DispenseCabinet x = begun(NURSE, kind, target);
             due("once", x.count(8), -1);
             due("twice", x.count(8), STEP);

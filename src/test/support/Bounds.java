@@ -67,11 +67,22 @@ abstract class Bounds {
         return x;
     }
 
+    static DispenseCabinet writtenAndWitnessed(int entries, int user) {
+        DispenseCabinet x = written(entries, user);
+        witness(x, SECOND);
+        return x;
+    }
+
     /** A stocked cabinet with a witness, too. */
     static DispenseCabinet witnessed(int user) {
         DispenseCabinet x = stocked(user);
         witness(x, SECOND);
         return x;
+    }
+
+    /** What a step of that kind is begun with, for one of the two items of a stocked cabinet. */
+    static int target(int kind, int item) {
+        return kind == TAKE ? item : FREE_BIN + item;
     }
 
     /** A witnessed cabinet with a step open, of one of the stocked bins or for one of the orders. */
@@ -83,8 +94,7 @@ abstract class Bounds {
 
     /** So many entries, from 290 on: a step of a bin that has one unit is open, and must be counted. */
     static DispenseCabinet writtenInStep(int entries, int kind, int target) {
-        DispenseCabinet x = written(289, PHARMACIST);
-        witness(x, SECOND);
+        DispenseCabinet x = writtenAndWitnessed(289, PHARMACIST);
         CHECK.holds("begin", x.begin(kind, target) >= 0);
         for (int i = 289; i < entries; i++) {
             x.count(1);
